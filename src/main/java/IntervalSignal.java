@@ -1819,13 +1819,10 @@ public final class IntervalSignal {
             return gap ? state(kept, changed) : state(changed, kept);
         }
 
-        /** Held within the rows, so that no sum can be beyond them. */
+        /** Within the rows, whatever is asked. */
         private static int state(int last, int answer) {
-            return within(last) * MOST_TONES + within(answer);
-        }
-
-        private static int within(int tone) {
-            return Math.max(0, Math.min(tone, MOST_TONES - 1));
+            int at = last * MOST_TONES + answer;
+            return at >= 0 && at < STATES ? at : 0;
         }
 
         private static int missingAt(int step) {

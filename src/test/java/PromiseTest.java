@@ -169,6 +169,12 @@ public final class PromiseTest {
         fault(head + "gap 1;", 1, 43);
         fault(head + ";", 1, 39);
         fault(head + "gaps;", 1, 39);
+        fault(head + "gapz;", 1, 39);
+        fault(head + "gapa;", 1, 39);
+        fault(head + "gap{;", 1, 42);
+        fault(head + "gap`;", 1, 42);
+        fault(head + "note 1/;", 1, 45);
+        fault(head + "note 1:;", 1, 45);
         fault(head + "post 1;", 1, 44);
         fault(head + "post at 100;", 2, 47);
         fault(head + "post at ;", 1, 47);
@@ -733,7 +739,26 @@ public final class PromiseTest {
         due("none", b.ask(0), -1);
         part(46);
         due("none", b.leaves(0), 0);
+        lateSteps();
         wrongRows(b);
+    }
+
+    /** Laws that go alike for long; the answers are the oracle's, too. */
+    private static void lateSteps() {
+        IntervalSignal x = Check.of("station tones 5 a 4 b 2 c 3 d 0 odds 0;gap;note 3;note 2;note 0;gap;note 1;note 0;");
+        Check.fill(x, 0, 20, 0, 43, 3, 28, 3);
+        part(45);
+        due("the last step", x.ask(0), 60);
+        part(46);
+        due("the last step", x.leaves(0), 5);
+        part(43);
+        due("before", x.laws(0), 25);
+        x = Check.of("station tones 5 a 2 b 3 c 1 d 4 odds 0;gap;note 1;gap;note 0;note 4;note 0;note 4;gap;");
+        Check.fill(x, 0, 36, 4, 40, 1);
+        part(45);
+        due("a late step", x.ask(0), 55);
+        part(46);
+        due("a late step", x.leaves(0), 1);
     }
 
     private static void wrongRows(IntervalSignal b) {
@@ -1118,6 +1143,9 @@ public final class PromiseTest {
         due("the word is answer", b.drawn(5, 60, 2), 2);
         b.anew();
         due("all lost", b.drawn(5, 60, 1), 30);
+        // draws from seed 0: 0 (x is 12345 then), 8
+        due("draw 0 is below 6", x.drawn(0, 1, 0), -1);
+        due("draw 8", x.drawn(0, 3, 1), 1);
         due("all lost", b.drawn(2000000000, 59, 0), -1);
         due("no signs", n.drawn(5, 60, 0), -1);
         due("no signs", n.drawn(5, 60, 1), 0);
@@ -1133,6 +1161,7 @@ public final class PromiseTest {
         due("notes at step 0", x.luck(5, 20, 0, 2), 20);
         due("notes at step 0", x.luck(5, 20, 0, 3), 0);
         due("one night", x.luck(5, 1, 2, 3), 1);
+        due("one night", x.luck(0, 1, 2, 3), 1);
         due("all lost", b.luck(5, 20, 1, 1), 0);
         int heardThen = 0;
         for (int seed = 7; seed < 24; seed++) {
