@@ -1,5 +1,5 @@
 /**
- * Every promise by itself, with answers worked out by hand.
+ * Every promise by itself, with answers worked out by hand (but for lateSteps).
  *
  * Station A goes: HEARD 2 3 1 3 0 2 0 0, and round from STEP 0 on in 8 STEPS, with a PIP at 7.
  * Station B goes: HEARD 1 1 1 1 .., a PIP at every odd STEP, and every answer is lost.
@@ -743,7 +743,7 @@ public final class PromiseTest {
         wrongRows(b);
     }
 
-    /** Laws that go alike for long; the answers are the oracle's, too. */
+    /** Laws that go alike for long: looked for with the program, and the oracle answers the same. */
     private static void lateSteps() {
         IntervalSignal x = Check.of("station tones 5 a 4 b 2 c 3 d 0 odds 0;gap;note 3;note 2;note 0;gap;note 1;note 0;");
         Check.fill(x, 0, 20, 0, 43, 3, 28, 3);
