@@ -1,11 +1,27 @@
 /** Counts what is checked, and tells a station's text to an object. */
 final class Check {
+    private static final int PROMISES = 72;
+
+    private final boolean[] spokenOf = new boolean[PROMISES + 1];
     private int right;
     private int wrong;
     private String part = "";
 
     void part(String name) {
         part = name;
+    }
+
+    /** A case of its own: what follows is of this promise and this boundary. */
+    void about(int promise, String boundary) {
+        spokenOf[promise] = true;
+        part = "promise " + promise + ", " + boundary;
+    }
+
+    void everyPromiseHasACase() {
+        part = "all";
+        for (int promise = 1; promise <= PROMISES; promise++) {
+            due("cases of promise " + promise, spokenOf[promise] ? 1 : 0, 1);
+        }
     }
 
     void due(String call, long got, long want) {

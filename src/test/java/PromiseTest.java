@@ -1,14 +1,8 @@
-/**
- * Every promise by itself, with answers worked out by hand (but for lateSteps).
- *
- * Station A goes: HEARD 2 3 1 3 0 2 0 0, and round from STEP 0 on in 8 STEPS, with a PIP at 7.
- * Station B goes: HEARD 1 1 1 1 .., a PIP at every odd STEP, and every answer is lost.
- * Station N has no SIGNS, and one POST.
- */
+/** Every promise by itself, with answers worked out by hand (but for lateSteps). */
 public final class PromiseTest {
-    private static final String A = "station tones 5 a 1 b 2 c 1 d 1 odds 2;note 2;gap;note 3;gap;post at 10;post at 20;";
-    private static final String B = "station tones 3 a 1 b 0 c 0 d 0 odds 10;note 1;gap;";
-    private static final String N = "station tones 4 a 1 b 0 c 0 d 0 odds 5;post at 10;";
+    private static final String A = Stations.A;
+    private static final String B = Stations.B;
+    private static final String N = Stations.N;
     private static final int[] A_HEARD = {2, 3, 1, 3, 0, 2, 0, 0};
     private static final int[] A_LAST = {0, 2, 2, 1, 1, 0, 0, 0};
     private static final int[] A_ANSWER = {0, 0, 3, 3, 3, 3, 2, 2};
