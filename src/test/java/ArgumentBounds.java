@@ -10,6 +10,7 @@ final class ArgumentBounds {
     private static final int[] STEP = {0, 60};
     private static final int[] PLAN_STEP = {0, 40};
     private static final int[] TONE = {0, 4};
+    private static final int[] ONLY_ASK = {13, 17, 18, 19, 21, 22, 28, 29, 30, 33, 34, 35, 36, 54};
     private static final int[] SEED = {0, 2_000_000_000};
 
     private interface Call {
@@ -40,6 +41,7 @@ final class ArgumentBounds {
         }
         bounds.withoutArguments();
         bounds.askingChangesNothing();
+        bounds.answersDoNotDependOnWhatWasAsked();
         bounds.refusedActsChangeNothing();
     }
 
@@ -198,6 +200,14 @@ final class ArgumentBounds {
         return v;
     }
 
+    private static int[] highest(Asked asked) {
+        int[] v = new int[asked.bounds.length];
+        for (int i = 0; i < v.length; i++) {
+            v[i] = asked.bounds[i][1];
+        }
+        return v;
+    }
+
     private static String shown(Asked asked, int[] v) {
         return asked.name + java.util.Arrays.toString(v);
     }
@@ -289,22 +299,21 @@ final class ArgumentBounds {
         };
     }
 
+    private static boolean onlyAsks(Asked asked) {
+        return asked.promise != 3 && asked.promise != 60 && asked.promise != 66 && asked.promise < 68;
+    }
+
     private void askingChangesNothing() {
         for (Asked asked : calls) {
-            boolean changes = asked.promise == 3 || asked.promise == 60 || asked.promise == 66 || asked.promise >= 68;
-            if (!changes) {
+            if (onlyAsks(asked)) {
                 check.about(asked.promise, "nothing is changed by asking");
                 IntervalSignal x = prepared(true);
-                int[] v = lowest(asked);
-                asked.call.answer(x, v);
-                for (int i = 0; i < v.length; i++) {
-                    v[i] = asked.bounds[i][1];
-                }
-                asked.call.answer(x, v);
-                stays(shown(asked, v), x, true);
+                asked.call.answer(x, lowest(asked));
+                asked.call.answer(x, highest(asked));
+                stays(asked.name, x, true);
             }
         }
-        for (int promise : new int[] {13, 17, 18, 19, 21, 22, 28, 29, 30, 33, 34, 35, 36, 54}) {
+        for (int promise : ONLY_ASK) {
             check.about(promise, "nothing is changed by asking");
             IntervalSignal x = prepared(true);
             withoutArguments(promise, x);
@@ -314,6 +323,43 @@ final class ArgumentBounds {
         IntervalSignal x = prepared(true);
         x.rests();
         stays("rests", x, true);
+    }
+
+    private void askAll(IntervalSignal x) {
+        for (Asked asked : calls) {
+            if (onlyAsks(asked)) {
+                asked.call.answer(x, highest(asked));
+                asked.call.answer(x, lowest(asked));
+            }
+        }
+        for (int promise : ONLY_ASK) {
+            withoutArguments(promise, x);
+        }
+    }
+
+    /** The prepared one without acts, when all has been asked of it and, before, of another station. */
+    private IntervalSignal askedBefore() {
+        IntervalSignal x = prepared(false);
+        x.back(0);
+        askAll(x);
+        x.back(2);
+        return x;
+    }
+
+    private void answersDoNotDependOnWhatWasAsked() {
+        for (Asked asked : calls) {
+            if (onlyAsks(asked)) {
+                check.about(asked.promise, "whatever was asked before");
+                for (int[] v : new int[][] {lowest(asked), highest(asked)}) {
+                    long first = asked.call.answer(prepared(false), v);
+                    check.due(shown(asked, v), asked.call.answer(askedBefore(), v), first);
+                }
+            }
+        }
+        for (int promise : ONLY_ASK) {
+            check.about(promise, "whatever was asked before");
+            check.due("it", withoutArguments(promise, askedBefore()), withoutArguments(promise, prepared(false)));
+        }
     }
 
     /** Refused for another reason than a bound of an argument. */

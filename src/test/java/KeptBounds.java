@@ -188,6 +188,15 @@ final class KeptBounds {
         due("undo", x.undo(), 29);
         due("spoken(31)", x.spoken(31), -1);
         due("spoken(32)", x.spoken(32), 3);
+        check.about(69, "whatever was spoken in between");
+        x.anew();
+        for (int k = 0; k < 30; k++) {
+            x.speak(k, 1);
+        }
+        x.back(0);
+        due("undo", x.undo(), 29);
+        due("spoken(31)", x.spoken(31), -1);
+        due("spoken(29)", x.spoken(29), -1);
         check.about(69, "no act is left of what was");
         x = Check.of(Stations.A);
         x.image(0);
@@ -200,6 +209,8 @@ final class KeptBounds {
         x.speak(1, 2);
         x.image(1);
         x.anew();
+        x.speak(1, 4);
+        x.speak(1, 3);
         x.back(1);
         due("undo", x.undo(), 1);
         due("spoken(1)", x.spoken(1), 1);

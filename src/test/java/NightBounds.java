@@ -435,6 +435,8 @@ final class NightBounds {
         due("all have none", Check.of(Stations.NOTES).pretty(), 0);
         check.about(28, "a at 1: no other law has a PIP in every gap");
         due("pretty", Check.of("station tones 9 a 0 b 0 c 0 d 0 odds 0;note 1;gap;note 8;gap;").pretty(), 100);
+        check.about(28, "b and c at 1: an answer one above the one before");
+        due("pretty", Check.of("station tones 3 a 0 b 0 c 0 d 0 odds 0;note 1;gap;note 2;gap;note 0;gap;").pretty(), 11);
         check.about(28, "no SIGNS: none has more than another");
         due("pretty", Check.of(Stations.N).pretty(), 0);
         check.about(28, "nothing spoken");

@@ -67,6 +67,14 @@ final class WordBounds {
         for (int n = 55; n < 150; n++) {
             due("far(" + n + ")", x.far(n), (n + 1) % 9);
         }
+        check.about(36, "of another STATION than was asked before");
+        Check.tell(x, Stations.PIPS);
+        x.station();
+        due("births", x.births(), 1);
+        check.about(35, "of another STATION than was asked before");
+        Check.tell(x, Stations.B);
+        x.station();
+        due("round", x.round(), 2);
         check.about(34, "it goes round beyond 60, from STEP 2 on");
         // found by a search in another program: the first STEP that is as an earlier one is 74
         round("station tones 9 a 4 b 6 c 8 d 4 odds 0;gap;gap;gap;note 5;gap;note 8;gap;gap;", 2, 72, 0);
@@ -78,6 +86,17 @@ final class WordBounds {
         due("far(0)", x.far(0), 1);
         check.about(37, "STEP 2,000,000,000");
         due("far(2000000000)", x.far(2_000_000_000), 3);
+        due("a ROUND of one STEP", Check.of(Stations.PIPS).far(2_000_000_000), 0);
+        due("a ROUND of one STEP", Check.of(Stations.PIPS).far(0), 0);
+        IntervalSignal three = Check.of("station tones 5 a 0 b 0 c 0 d 0 odds 0;note 1;note 2;note 3;");
+        check.about(37, "a ROUND of three STEPS from STEP 1 on");
+        due("settles", three.settles(), 1);
+        due("round", three.round(), 3);
+        for (int n = 0; n < 20; n++) {
+            due("far(" + n + ")", three.far(n), n % 3 + 1);
+        }
+        due("far(2000000000)", three.far(2_000_000_000), 3);
+        due("far(1999999999)", three.far(1_999_999_999), 2);
         check.about(37, "no such n");
         due("far(2000000001)", x.far(2_000_000_001), -2);
         due("far(-1)", x.far(-1), -2);
@@ -121,6 +140,10 @@ final class WordBounds {
         x.speak(0, 1);
         due("reach(0)", x.reach(0), 1);
         due("acts stay", x.spoken(0), 1);
+        check.about(31, "LAST is 0 ahead of STEP 0");
+        due("reach(0)", Check.of("station tones 3 a 1 b 0 c 0 d 0 odds 0;gap;note 1;").reach(0), 1);
+        check.about(31, "ANSWER is 0 ahead of STEP 0");
+        due("reach(0)", Check.of("station tones 3 a 0 b 1 c 1 d 1 odds 0;note 1;gap;").reach(0), 2);
         check.about(31, "all nine, and the note alone");
         IntervalSignal y = Check.of("station tones 9 a 1 b 0 c 0 d 0 odds 0;note 8;gap;");
         due("reach(1)", y.reach(1), 511);
@@ -194,6 +217,22 @@ final class WordBounds {
         due("needs(2, 5)", x.needs(2, 5), 2);
         due("plan(2, 5, 0)", x.plan(2, 5, 0), 1);
         due("plan(2, 5, 1)", x.plan(2, 5, 1), 1);
+        check.about(39, "two words as late as they can be, STEPS 3 and 4");
+        int[] row = {-1, -1, -1, 1, 1, -1};
+        for (int i = 0; i < row.length; i++) {
+            due("plan(5, 5, " + i + ")", x.plan(5, 5, i), row[i]);
+        }
+        check.about(39, "a word, and what is heard behind it unspoken");
+        // a word over the note makes LAST 1, then the gap says 1 again as ANSWER, and the next one both: 2
+        IntervalSignal both = Check.of("station tones 5 a 1 b 1 c 0 d 0 odds 0;note 0;gap;gap;");
+        due("needs(2, 2)", both.needs(2, 2), 1);
+        due("a word over the gap alone", both.plan(2, 2, 0), -1);
+        due("a word over the gap alone", both.plan(2, 2, 1), 2);
+        IntervalSignal tripled = Check.of("station tones 6 a 2 b 0 c 1 d 0 odds 0;note 0;gap;note 0;");
+        // STEP 1 says 2 LAST and 1: 3 for LAST 1 and 4
+        due("plan(1, 3, 0)", tripled.plan(1, 3, 0), 1);
+        due("plan(4, 5, 3)", tripled.plan(4, 5, 3), 2);
+        due("plan(4, 5, 0)", tripled.plan(4, 5, 0), -1);
         check.about(39, "the least word, 0");
         // LAST 0 behind a note 1 takes a word over the note alone
         IntervalSignal y = Check.of("station tones 3 a 1 b 0 c 0 d 0 odds 0;note 1;gap;");
@@ -243,6 +282,22 @@ final class WordBounds {
         due("mend(40, 0)", x.mend(40, 0), 0);
         check.about(42, "none: it is forgotten");
         due("mend(0, 1)", Check.of(Stations.PIPS).mend(0, 1), 0);
+        check.about(42, "as they were without any: what is HEARD anyway, asked first");
+        due("mend(0, 2)", Check.of(Stations.A).mend(0, 2), 0);
+        due("mend(0, 3)", Check.of(Stations.A).mend(0, 3), 1);
+        due("mend(40, 2)", Check.of(Stations.A).mend(40, 2), 0);
+        due("mend(1, 3)", Check.of(Stations.A).mend(1, 3), 0);
+        check.about(42, "as it was ahead of STEP 60 first");
+        // both found by a search in another program
+        String to60 = "station tones 8 a 5 b 6 c 4 d 0 odds 0;note 2;note 6;note 4;note 6;note 2;gap;";
+        due("mend(40, 1)", Check.of(to60).mend(40, 1), 0);
+        check.about(42, "as it was ahead of STEP 61 first: beyond 60");
+        String to61 = "station tones 8 a 1 b 2 c 6 d 6 odds 0;note 6;note 0;note 6;note 3;gap;gap;note 4;";
+        due("mend(40, 0)", Check.of(to61).mend(40, 0), 1);
+        check.about(42, "whatever was asked before");
+        IntervalSignal asked = Check.of(Stations.A);
+        due("another night was heard", asked.shift(0, 3), 61);
+        due("mend(0, 2)", asked.mend(0, 2), 0);
         check.about(42, "no STEP 41 or -1");
         due("mend(41, 0)", x.mend(41, 0), -2);
         due("mend(-1, 0)", x.mend(-1, 0), -2);
