@@ -18,6 +18,7 @@ final class ChanceBounds {
         bounds.chanceSteps();
         bounds.sureSteps();
         bounds.drawsFromEdgesOfSeeds();
+        bounds.drawsOneBehindTheOther();
         bounds.drawnSteps();
         bounds.drawnWords();
         bounds.lucky();
@@ -173,6 +174,25 @@ final class ChanceBounds {
         }
     }
 
+    /** Twelve draws from the least and from the largest seed, worked out in another program. */
+    private void drawsOneBehindTheOther() {
+        int[] fromLeast = {0, 8, 8, 7, 8, 7, 5, 1, 2, 0, 1, 2};
+        int[] fromLargest = {4, 3, 1, 7, 6, 2, 7, 7, 5, 4, 7, 0};
+        for (int odds = 1; odds <= 9; odds += 2) {
+            IntervalSignal x = Check.of(Stations.lostWith(odds));
+            int lostFromLeast = 0;
+            int lostFromLargest = 0;
+            check.about(64, "draws one behind the other, odds " + odds);
+            for (int step = 0; step < 12; step++) {
+                lostFromLeast += fromLeast[step] < odds ? 1 : 0;
+                lostFromLargest += fromLargest[step] < odds ? 1 : 0;
+                due("from 0 to " + step, x.drawn(0, step, 1), lostFromLeast);
+                due("from 0 at " + step, x.drawn(0, step, 0), fromLeast[step] < odds ? -1 : 0);
+                due("from 2,000,000,000 to " + step, x.drawn(LARGEST, step, 1), lostFromLargest);
+            }
+        }
+    }
+
     private void drawnSteps() {
         IntervalSignal x = Check.of("station tones 3 a 1 b 0 c 1 d 0 odds 5;gap;note 1;");
         // draws from seed 0: 0, 8, 8, 7, .. at STEPS 0, 2, 4, 6, ..
@@ -187,6 +207,9 @@ final class ChanceBounds {
         check.about(64, "behind it, not ahead of it");
         due("the answer", x.drawn(0, 2, 0), 2);
         due("ANSWER", x.drawn(0, 2, 2), 2);
+        check.about(64, "LAST and ANSWER are 0 ahead of STEP 0");
+        due("1 above LAST", Check.of(Stations.NEVER).drawn(0, 0, 0), 1);
+        due("a note alone", Check.of(Stations.A).drawn(0, 0, 0), 2);
         check.about(64, "STEP 60");
         IntervalSignal all = Check.of("station tones 3 a 1 b 0 c 1 d 0 odds 10;gap;note 1;");
         due("to 59", all.drawn(0, 59, 1), 30);

@@ -14,6 +14,7 @@ final class SeenBounds {
         bounds.blindPairs();
         bounds.lawRows();
         bounds.lawsAsked();
+        bounds.askedFirst();
         bounds.lawNumbers();
         bounds.lawRowIsFull();
         bounds.lawsWithoutSigns();
@@ -150,6 +151,32 @@ final class SeenBounds {
         due("ask", x.ask(0), -1);
         check.about(46, "one alone");
         due("leaves", x.leaves(0), 1);
+    }
+
+    private static IntervalSignal withRow(String station, long... numbers) {
+        IntervalSignal x = Check.of(station);
+        Check.fill(x, 0, numbers);
+        return x;
+    }
+
+    /** Each on an object of its own, that was asked nothing else. */
+    private void askedFirst() {
+        check.about(43, "asked first");
+        due("laws", withRow(Stations.PIPS, 0, 1).laws(0), 4);
+        check.about(44, "asked first");
+        due("law", withRow(Stations.PIPS, 0, 1).law(0), 1);
+        check.about(45, "asked first");
+        due("ask", withRow(Stations.PIPS, 0, 1).ask(0), 1);
+        check.about(46, "asked first");
+        due("leaves", withRow(Stations.PIPS, 0, 1).leaves(0), 2);
+        check.about(47, "asked first");
+        due("places", withRow(Stations.POST_AT_0, 0, 7).places(0), 8);
+        check.about(48, "asked first");
+        due("place", withRow(Stations.withPosts(99), 0, 7).place(0), 92);
+        check.about(49, "asked first");
+        due("farther", withRow(Stations.POST_AT_0, 0, 7).farther(0), 7);
+        check.about(50, "asked first");
+        due("set", withRow(Stations.POST_AT_0, 0, 7).set(0), 7);
     }
 
     private void lawNumbers() {

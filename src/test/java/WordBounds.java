@@ -200,6 +200,15 @@ final class WordBounds {
         check.about(39, "there is no PLAN");
         due("plan(0, 1, 0)", x.plan(0, 1, 0), -1);
         due("plan(0, 1, 40)", x.plan(0, 1, 40), -1);
+        due("though there are STEPS ahead", Check.of(Stations.NOTES).plan(40, 8, 0), -1);
+        due("though there are STEPS ahead", Check.of(Stations.NOTES).plan(40, 8, 39), -1);
+        check.about(39, "LAST is 0 ahead of STEP 0");
+        due("plan(1, 1, 0)", Check.of("station tones 3 a 1 b 1 c 0 d 0 odds 0;gap;").plan(1, 1, 0), 1);
+        check.about(39, "ANSWER goes on unspoken: 1 2 0 ..");
+        IntervalSignal counts = Check.of("station tones 3 a 0 b 1 c 1 d 0 odds 0;gap;");
+        due("plan(3, 2, 2)", counts.plan(3, 2, 2), 1);
+        due("plan(3, 2, 1)", counts.plan(3, 2, 1), -1);
+        due("plan(3, 1, 2)", counts.plan(3, 1, 2), -1);
         check.about(39, "nothing is needed");
         due("plan(0, 0, 0)", x.plan(0, 0, 0), -1);
         due("plan(40, 0, 39)", x.plan(40, 0, 39), -1);
@@ -288,12 +297,14 @@ final class WordBounds {
         due("mend(40, 2)", Check.of(Stations.A).mend(40, 2), 0);
         due("mend(1, 3)", Check.of(Stations.A).mend(1, 3), 0);
         check.about(42, "as it was ahead of STEP 60 first");
-        // both found by a search in another program
+        // these three were found by a search in another program
         String to60 = "station tones 8 a 5 b 6 c 4 d 0 odds 0;note 2;note 6;note 4;note 6;note 2;gap;";
         due("mend(40, 1)", Check.of(to60).mend(40, 1), 0);
         check.about(42, "as it was ahead of STEP 61 first: beyond 60");
         String to61 = "station tones 8 a 1 b 2 c 6 d 6 odds 0;note 6;note 0;note 6;note 3;gap;gap;note 4;";
         due("mend(40, 0)", Check.of(to61).mend(40, 0), 1);
+        String to0 = "station tones 8 a 1 b 3 c 2 d 3 odds 0;note 0;note 0;note 6;gap;gap;gap;";
+        due("LAST and ANSWER are 0 then", Check.of(to0).mend(40, 1), 1);
         check.about(42, "whatever was asked before");
         IntervalSignal asked = Check.of(Stations.A);
         due("another night was heard", asked.shift(0, 3), 61);
