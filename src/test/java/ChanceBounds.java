@@ -1,6 +1,6 @@
 /** Boundary cases of promises 55 to 59, 64 and 65, and of terms VIII and IX: rivals, chance, nights drawn. */
 final class ChanceBounds {
-    /** First draws from seeds 0 .. 19, and from 2,000,000,000 .. 2,000,000,019. */
+    /** First draws from seeds 0 .. 19, and from 2,000,000,000 .. 2,000,000,019, worked out in another program. */
     private static final int[] EARLY = {0, 8, 8, 7, 7, 5, 6, 4, 4, 2, 3, 1, 1, 0, 0, 8, 9, 7, 7, 6};
     private static final int[] LATE = {4, 2, 2, 1, 1, 9, 0, 8, 8, 6, 7, 5, 5, 4, 4, 2, 3, 1, 1, 0};
     private static final int LARGEST = 2_000_000_000;
