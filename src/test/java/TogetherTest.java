@@ -665,8 +665,8 @@ public final class TogetherTest {
 
     private void chances() {
         IntervalSignal x = told.spoken();
-        int p = random.nextInt(101);
-        int sure = NONE;
+        int[] sure = new int[101];
+        Arrays.fill(sure, NONE);
         BigInteger above = BigInteger.ONE;
         BigInteger below = BigInteger.ONE;
         for (int step = 0; step <= 17; step++) {
@@ -678,11 +678,13 @@ public final class TogetherTest {
             part(58);
             due("chance(" + step + ", 0)", x.chance(step, 0), above.divide(common).longValueExact());
             due("chance(" + step + ", 1)", x.chance(step, 1), below.divide(common).longValueExact());
-            BigInteger hundredfold = above.multiply(BigInteger.valueOf(100));
-            sure = hundredfold.compareTo(below.multiply(BigInteger.valueOf(p))) >= 0 ? step : sure;
+            int inAHundred = above.multiply(BigInteger.valueOf(100)).divide(below).intValueExact();
+            Arrays.fill(sure, 0, inAHundred + 1, step);
         }
         part(59);
-        due("sure(" + p + ")", x.sure(p), sure);
+        for (int p = 0; p <= 100; p++) {
+            due("sure(" + p + ")", x.sure(p), sure[p]);
+        }
     }
 
     /** A drawn night is one in which some answers are not there: all is heard as term II says it else. */
