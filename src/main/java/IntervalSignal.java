@@ -991,12 +991,18 @@ public final class IntervalSignal {
 
         private void readHead(Tape tape) {
             takeWord(tape, "station");
-            int tones = takeNamed(tape, "tones", 2, MOST_TONES);
-            int a = takeNamed(tape, "a", 0, tones - 1);
-            int b = takeNamed(tape, "b", 0, tones - 1);
-            int c = takeNamed(tape, "c", 0, tones - 1);
-            int d = takeNamed(tape, "d", 0, tones - 1);
-            int odds = takeNamed(tape, "odds", 0, MOST_ODDS);
+            takeWord(tape, "tones");
+            int tones = takeNumber(tape, 2, MOST_TONES);
+            takeWord(tape, "a");
+            int a = takeNumber(tape, 0, tones - 1);
+            takeWord(tape, "b");
+            int b = takeNumber(tape, 0, tones - 1);
+            takeWord(tape, "c");
+            int c = takeNumber(tape, 0, tones - 1);
+            takeWord(tape, "d");
+            int d = takeNumber(tape, 0, tones - 1);
+            takeWord(tape, "odds");
+            int odds = takeNumber(tape, 0, MOST_ODDS);
             if (fault == 0) {
                 draft.setHead(tones, d, odds);
                 draft.setLaw(a, b, c);
@@ -1007,7 +1013,8 @@ public final class IntervalSignal {
             if (draft.signCount() >= MOST_SIGNS) {
                 fail(TOO_MANY);
             }
-            int tone = takeNamed(tape, "note", 0, draft.tones() - 1);
+            takeWord(tape, "note");
+            int tone = takeNumber(tape, 0, draft.tones() - 1);
             if (fault == 0) {
                 draft.addSign(tone);
             }
@@ -1028,14 +1035,14 @@ public final class IntervalSignal {
                 fail(TOO_MANY);
             }
             takeWord(tape, "post");
-            int place = takeNamed(tape, "at", 0, PLACES - 1);
+            takeWord(tape, "at");
+            int place = takeNumber(tape, 0, PLACES - 1);
             if (fault == 0) {
                 draft.addPost(place);
             }
         }
 
-        private int takeNamed(Tape tape, String name, int low, int high) {
-            takeWord(tape, name);
+        private int takeNumber(Tape tape, int low, int high) {
             if (kind != NUMBER) {
                 fail(MISPLACED);
             } else if (outside(number, low, high)) {

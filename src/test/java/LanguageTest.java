@@ -1,20 +1,30 @@
 import java.io.IOException;
+import java.io.PrintWriter;
+import java.io.StringWriter;
 import java.lang.reflect.Constructor;
 import java.lang.reflect.Field;
 import java.lang.reflect.Method;
 import java.lang.reflect.Modifier;
 import java.nio.file.Files;
 import java.nio.file.Path;
+import java.util.ArrayList;
 import java.util.List;
+import java.util.Map;
+import java.util.Optional;
 import java.util.Set;
+import java.util.TreeMap;
 import java.util.TreeSet;
 import java.util.regex.Matcher;
 import java.util.regex.Pattern;
+import java.util.spi.ToolProvider;
 
 /** The rules of ../shared/LANGUAGE.md that a look at the source or at the class can tell. */
 public final class LanguageTest {
     private static final Path SOURCE = Path.of("src/main/java/IntervalSignal.java");
     private static final Path DOCUMENT = Path.of("../shared/DOC.md");
+    private static final Set<String> LIBRARY = Set.of("java/lang/Object.\"<init>\"", "java/lang/String.length",
+            "java/lang/String.charAt", "java/lang/Math.abs", "java/lang/Math.max", "java/lang/Math.min",
+            "java/lang/Integer.bitCount", "java/lang/System.arraycopy", "java/util/Arrays.fill");
     private static final Check check = new Check();
 
     public static void main(String[] args) throws IOException {
@@ -23,6 +33,7 @@ public final class LanguageTest {
         wordsAreAllowed();
         nothingIsMadeByCalls();
         methodsAreShort();
+        callsAreShallow();
         check.close();
     }
 
@@ -140,6 +151,66 @@ public final class LanguageTest {
                 start = -1;
             }
         }
+    }
+
+    /** The calls that each method of the compiled program holds, as javap tells them. */
+    private static Map<String, Set<String>> callsOfMethods(ToolProvider javap) {
+        List<String> asked = new ArrayList<>(List.of("-c", "-p", "-cp", System.getProperty("java.class.path")));
+        asked.add("IntervalSignal");
+        for (Class<?> inner : IntervalSignal.class.getDeclaredClasses()) {
+            asked.add(inner.getName());
+        }
+        StringWriter told = new StringWriter();
+        PrintWriter to = new PrintWriter(told);
+        javap.run(to, to, asked.toArray(new String[0]));
+        Map<String, Set<String>> calls = new TreeMap<>();
+        String type = "";
+        Set<String> held = new TreeSet<>();
+        for (String line : told.toString().lines().toList()) {
+            Matcher head = Pattern.compile(".*\\bclass (\\S+) \\{").matcher(line);
+            Matcher method = Pattern.compile("  \\S.*?([\\w$]+)\\(.*\\);").matcher(line);
+            Matcher call = Pattern.compile(".*// Method ([^:]+):.*").matcher(line);
+            if (head.matches()) {
+                type = head.group(1);
+            } else if (method.matches()) {
+                boolean maker = type.endsWith(method.group(1));
+                held = new TreeSet<>();
+                calls.put(type + "." + (maker ? "\"<init>\"" : method.group(1)), held);
+            } else if (call.matches()) {
+                held.add(call.group(1).contains(".") ? call.group(1) : type + "." + call.group(1));
+            }
+        }
+        return calls;
+    }
+
+    private static void callsAreShallow() {
+        check.part("rules 4, 8, 11");
+        Optional<ToolProvider> javap = ToolProvider.findFirst("javap");
+        if (javap.isEmpty()) {
+            System.out.println("this java has no javap: how deep calls go was not looked at");
+            return;
+        }
+        Map<String, Set<String>> calls = callsOfMethods(javap.get());
+        holds("methods found", calls.size() > 150 && calls.containsKey("IntervalSignal.station"));
+        for (Map.Entry<String, Set<String>> method : calls.entrySet()) {
+            for (String call : method.getValue()) {
+                holds(call + " in " + method.getKey() + " is its own or the library's that is allowed",
+                        calls.containsKey(call) || LIBRARY.contains(call));
+            }
+            int open = open(calls, method.getKey(), 1);
+            holds(method.getKey() + " has at most eight calls open: " + open, open <= 8);
+        }
+    }
+
+    /** How many calls stand open at once, this one among them; the library's are not counted. */
+    private static int open(Map<String, Set<String>> calls, String method, int depth) {
+        int most = depth;
+        for (String call : calls.getOrDefault(method, Set.of())) {
+            if (calls.containsKey(call) && depth < 20) {
+                most = Math.max(most, open(calls, call, depth + 1));
+            }
+        }
+        return most;
     }
 
     private static int indent(String line) {
