@@ -6,8 +6,10 @@ import java.util.Random;
 
 /**
  * The promises held against one another: what a call answers is due from what other calls answer for a station that is
- * told anew, spoken over, tuned or measured just as the document's terms say. No second program is asked; what is
- * heard step by step is held against term II itself. No object gets more than 512 calls. The seeds are fixed.
+ * told anew, spoken over, tuned or measured just as the document's terms say. What no other call tells is worked out
+ * here from the term itself: tones step by step (II), places (VII), chances and draws (IX). Plans are gone through to
+ * 4 steps, mends to one word, and a post more where at most 12 places fit. No object gets more than 512 calls. The
+ * seeds are fixed.
  */
 public final class TogetherTest {
     private static final int NONE = IntervalSignal.NONE;
